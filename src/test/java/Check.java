@@ -1,3 +1,6 @@
+import java.util.Arrays;
+import java.util.List;
+
 /** Counts the answers that are not due, and makes halls ready for the tests. */
 final class Check {
     interface Call {
@@ -42,7 +45,22 @@ final class Check {
         StackTraceElement[] trace = thrown.getStackTrace();
         Class<?> kind = thrown.getClass();
         boolean isDue = kind == INDEX || kind == ARGUMENT || kind == STATE;
-        return isDue && trace.length > 0 && trace[0].getClassName().equals("RejudgeHall");
+        String place = trace.length > 0 ? trace[0].getClassName() : "";
+        return isDue && (place.equals("RejudgeHall") || place.startsWith("RejudgeHall$"));
+    }
+
+    /** The first place at which two rows of answers differ is told. */
+    static void same(String name, List<String> want, List<String> got) {
+        int place = 0;
+        while (place < Math.min(want.size(), got.size()) && want.get(place).equals(got.get(place))) {
+            place++;
+        }
+        if (place < Math.max(want.size(), got.size())) {
+            wrong++;
+            String due = place < want.size() ? want.get(place) : "no more";
+            String there = place < got.size() ? got.get(place) : "no more";
+            System.out.println(name + ": " + there + ", due is " + due);
+        }
     }
 
     static void end() {
@@ -73,6 +91,46 @@ final class Check {
     /** A program that prints one number, whatever its input. */
     static void constant(RejudgeHall hall, int number) {
         code(hall, RejudgeHall.PUSH, number, RejudgeHall.PRINT, 0);
+    }
+
+    /** All of one row of pairs, and then all of another. */
+    static int[] join(int[] head, int... tail) {
+        int[] all = Arrays.copyOf(head, head.length + tail.length);
+        System.arraycopy(tail, 0, all, head.length, tail.length);
+        return all;
+    }
+
+    /** Pairs as often as told. */
+    static int[] times(int count, int... pairs) {
+        int[] all = new int[0];
+        for (int i = 0; i < count; i++) {
+            all = join(all, pairs);
+        }
+        return all;
+    }
+
+    /** A program of one JUMP a step, which ends behind its last instruction, in as many steps as it has. */
+    static int[] walk(int length) {
+        int[] pairs = new int[2 * length];
+        for (int i = 0; i < length; i++) {
+            pairs[2 * i] = RejudgeHall.JUMP;
+            pairs[2 * i + 1] = i + 1;
+        }
+        return pairs;
+    }
+
+    /** Counts down from a number, in five steps each, at the instructions 1 to 5; what follows stands at 6. */
+    static int[] countDown(int rounds) {
+        return new int[] {RejudgeHall.PUSH, rounds, RejudgeHall.PUSH, 1, RejudgeHall.SUB, 0,
+            RejudgeHall.DUP, 0, RejudgeHall.JZ, 6, RejudgeHall.JUMP, 1};
+    }
+
+    /** A hall whose desk has a program and an input. */
+    static RejudgeHall desk(int[] pairs, int... numbers) {
+        RejudgeHall hall = new RejudgeHall();
+        code(hall, pairs);
+        input(hall, numbers);
+        return hall;
     }
 
     /** A hall with problems that echo; each has one test, of the group 0, with the input 5. */

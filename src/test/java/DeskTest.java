@@ -162,41 +162,35 @@ public final class DeskTest {
     /** What may be made ends at 999999 and -999999; 999 by 999 is 998001. */
     private static void madeNumbers() {
         int[] nine99 = {PUSH, 99, PUSH, 10, MUL, 0, PUSH, 9, ADD, 0};
-        int[] square = join(nine99, DUP, 0, MUL, 0);
-        Check.due("998001", 998001, first(join(square, PRINT, 0)));
-        int[] edge = join(square, PUSH, 99, PUSH, 20, MUL, 0, ADD, 0, PUSH, 18, ADD, 0);
+        int[] square = Check.join(nine99, DUP, 0, MUL, 0);
+        Check.due("998001", 998001, first(Check.join(square, PRINT, 0)));
+        int[] edge = Check.join(square, PUSH, 99, PUSH, 20, MUL, 0, ADD, 0, PUSH, 18, ADD, 0);
         Check.due("999999 runs", RIGHT, told(0, 99, edge));
         Check.due("999999", 999999, firstAfter(edge));
-        Check.due("1000000 crashes", CRASHED, told(0, 99, join(edge, PUSH, 1, ADD, 0)));
-        int[] low = join(nine99, DUP, 0, PUSH, -1, MUL, 0, MUL, 0, PUSH, 99, PUSH, 20, MUL, 0, SUB, 0);
+        Check.due("1000000 crashes", CRASHED, told(0, 99, Check.join(edge, PUSH, 1, ADD, 0)));
+        int[] low = Check.join(nine99, DUP, 0, PUSH, -1, MUL, 0, MUL, 0, PUSH, 99, PUSH, 20, MUL, 0, SUB, 0);
         Check.due("-999981", RIGHT, told(0, 99, low));
-        Check.due("-999999 runs", RIGHT, told(0, 99, join(low, PUSH, 18, SUB, 0)));
-        Check.due("-1000000 crashes", CRASHED, told(0, 99, join(low, PUSH, 19, SUB, 0)));
-        Check.due("a product beyond int crashes", CRASHED, told(0, 99, join(square, DUP, 0, MUL, 0)));
+        Check.due("-999999 runs", RIGHT, told(0, 99, Check.join(low, PUSH, 18, SUB, 0)));
+        Check.due("-1000000 crashes", CRASHED, told(0, 99, Check.join(low, PUSH, 19, SUB, 0)));
+        Check.due("a product beyond int crashes", CRASHED, told(0, 99, Check.join(square, DUP, 0, MUL, 0)));
     }
 
     private static int firstAfter(int[] pairs) {
-        return first(join(pairs, PRINT, 0));
-    }
-
-    private static int[] join(int[] head, int... tail) {
-        int[] all = java.util.Arrays.copyOf(head, head.length + tail.length);
-        System.arraycopy(tail, 0, all, head.length, tail.length);
-        return all;
+        return first(Check.join(pairs, PRINT, 0));
     }
 
     private static void memory() {
         int[] eight = new int[0];
         for (int i = 0; i < 8; i++) {
-            eight = join(eight, PUSH, i);
+            eight = Check.join(eight, PUSH, i);
         }
         Check.due("8 on the stack", RIGHT, told(0, 99, eight));
-        Check.due("9 by PUSH", MEMORY, told(0, 99, join(eight, PUSH, 1)));
-        Check.due("9 by PUSH, steps", 9, told(1, 99, join(eight, PUSH, 1)));
-        Check.due("9 by DUP", MEMORY, told(0, 99, join(eight, DUP, 0)));
-        Check.due("9 by READ, but no input", CRASHED, told(0, 99, join(eight, READ, 0)));
+        Check.due("9 by PUSH", MEMORY, told(0, 99, Check.join(eight, PUSH, 1)));
+        Check.due("9 by PUSH, steps", 9, told(1, 99, Check.join(eight, PUSH, 1)));
+        Check.due("9 by DUP", MEMORY, told(0, 99, Check.join(eight, DUP, 0)));
+        Check.due("9 by READ, but no input", CRASHED, told(0, 99, Check.join(eight, READ, 0)));
         RejudgeHall hall = new RejudgeHall();
-        Check.code(hall, join(eight, READ, 0));
+        Check.code(hall, Check.join(eight, READ, 0));
         hall.input(1);
         Check.due("9 by READ", MEMORY, hall.run(99, 0));
         Check.due("9th output", MEMORY, told(0, 99, PUSH, 3, PRINT, 0, JUMP, 0));

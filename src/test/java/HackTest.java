@@ -17,7 +17,7 @@ public final class HackTest {
     }
 
     /** Entry 0 of team 0 is right, entry 1 of team 1 prints 5 always. */
-    private static RejudgeHall hackHall() {
+    static RejudgeHall hackHall() {
         RejudgeHall hall = Check.echoHall(2);
         Check.enterRight(hall, 0, 0);
         Check.constant(hall, 5);

@@ -4,6 +4,8 @@ import java.lang.management.ManagementFactory;
 /** What a run of calls makes stays small: the calls that only look, judge or reveal make nothing. */
 public final class RoomTest {
     private static final int TEAMS = 8;
+    /** As many as are left of the 512 calls of a hall. */
+    private static final int ROUNDS = 18;
     private static final ThreadMXBean THREADS = (ThreadMXBean) ManagementFactory.getThreadMXBean();
 
     public static void main(String[] args) {
@@ -38,14 +40,14 @@ public final class RoomTest {
     private static long measured() {
         RejudgeHall hall = fullHall();
         long before = THREADS.getCurrentThreadAllocatedBytes();
-        for (int i = 0; i < 60; i++) {
+        for (int i = 0; i < ROUNDS; i++) {
             hall.judge();
             hall.run(500, i % 11);
             hall.entry(i, i % 7);
             hall.likeness(i, 59 - i);
             hall.board(i % TEAMS, true, i % 5);
             hall.placeAnew(i % TEAMS);
-            hall.freeze(i / 30);
+            hall.freeze(i / 9);
             hall.reveal();
             hall.rejudge(i % 6);
         }
