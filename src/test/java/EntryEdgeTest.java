@@ -15,6 +15,7 @@ public final class EntryEdgeTest {
         minuteNotAbove9999();
         noneIfNoneWaits();
         teamWithTheFewest();
+        fewestOfMany();
         lowestNumberOfSeveral();
         eachTimeCounted();
         runsByTheLimit();
@@ -191,6 +192,42 @@ public final class EntryEdgeTest {
         hall.enter(0, 0);
         hall.enter(0, 0);
         Check.due("a team of which none waits does not matter", 1, hall.judge());
+    }
+
+    /** The same, with each count of judgings apart by one, and with as many as the calls of a hall allow. */
+    private static void fewestOfMany() {
+        RejudgeHall hall = Check.echoHall(1);
+        for (int team = 0; team < 8; team++) {
+            for (int i = team; i < 9; i++) {
+                hall.enter(team, 0);
+            }
+        }
+        Check.judgeAll(hall);
+        int first = hall.enter(0, 0);
+        for (int team = 1; team < 8; team++) {
+            hall.enter(team, 0);
+        }
+        for (int team = 7; team >= 0; team--) {
+            Check.due("9 less the team were judged of each, team " + team, first + team, hall.judge());
+        }
+        RejudgeHall again = Check.echoHall(3);
+        int[] judgings = {41, 40, 39};
+        for (int problem = 0; problem < 3; problem++) {
+            again.enter(problem, problem);
+            again.judge();
+            for (int i = 1; i < judgings[problem]; i++) {
+                again.mend(problem, EXACT);
+                again.rejudge(problem);
+                Check.due("judged again", problem, again.judge());
+            }
+        }
+        for (int i = 0; i < 6; i++) {
+            again.enter(i % 3, 0);
+        }
+        int[] order = {5, 4, 8, 3, 7, 6, NONE};
+        for (int entry : order) {
+            Check.due("41, 40 and 39 were judged", entry, again.judge());
+        }
     }
 
     /** "of several such teams, and of one, the lowest number of an entry" */
